@@ -62,8 +62,12 @@ public final class Promise04Test {
         Bench.dueOfText("rank x 1 ", 8);
         Bench.dueOfText("rank x  1", 7);
         Bench.dueOfText("rank 1", 5);
+        Bench.dueOfText("rank x1", 6);
+        Bench.dueOfText("rank x1 ", 6);
         Bench.dueOfText("need c ! p", 7);
         Bench.dueOfText("need c p", 7);
+        Bench.dueOfText("need c  p", 7);
+        Bench.dueOfText("need c> p", 6);
         Bench.dueOfText("need c >p", 8);
         Bench.dueOfText("need c >> p", 8);
         Bench.dueOfText("need c > > p", 9);

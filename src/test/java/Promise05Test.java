@@ -30,7 +30,38 @@ public final class Promise05Test {
         Bench.due("fault after cut(0)", bench.desk.fault(), 0);
         Bench.due("types after it", bench.desk.count(0), 1);
         textStays();
+        whatIsCutCountsNoMore();
         Bench.finish();
+    }
+
+    /** What was declared behind the end is declared no more. */
+    private static void whatIsCutCountsNoMore() {
+        Bench attribute = Bench.with("class f p", "type a", "type b a");
+        Bench.due("accept with the attribute", attribute.accept(), Bench.BAD_ARGUMENT);
+        attribute.desk.cut(2);
+        Bench.due("accept without the attribute", attribute.accept(), 1);
+
+        Bench type = Bench.with("class f p", "type a", "rank b 1", "type b");
+        Bench.due("accept with the type", type.accept(), 2);
+        type.desk.cut(3);
+        Bench.due("accept without the type", type.accept(), Bench.BAD_ARGUMENT);
+        Bench.due("fault without the type", type.desk.fault(), 2);
+
+        Bench permission = Bench.with("class f p", "type a", "sees f q", "class f q");
+        permission.accept();
+        Bench.due("fault with the permission", permission.desk.fault(), 3);
+        permission.desk.cut(3);
+        permission.accept();
+        Bench.due("fault without the permission", permission.desk.fault(), 2);
+
+        Bench same = Bench.with("class f p q", "type a", "allow a a f q", "class f q");
+        same.desk.cut(3);
+        Bench.due("accept without the class of the same name", same.accept(), 1);
+        Bench.due("may without the class of the same name", same.may(0, 0, 0), 2);
+
+        Bench half = Bench.with("class f p", "type a");
+        half.add("type b a!");
+        Bench.due("accept behind a text that is no statement", half.accept(), 1);
     }
 
     private static void textStays() {

@@ -51,6 +51,8 @@ public final class Promise06Test {
         Bench.dueOfDraft(WRONG + 1, "class f p", "type a w x y y");
         Bench.dueOfDraft(WRONG + 9, "class f p", "type a", "type b", "type c", "type d", "type e", "type f", "type g",
                 "type h", "type i");
+        Bench.dueOfDraft(WRONG + 1, "type b a", "type a", "class f p");
+        Bench.dueOfDraft(WRONG + 0, "type a a", "class f p");
         // an attribute of a type that is wrong itself counts, too
         Bench.dueOfDraft(WRONG + 0, "type x", "class f p", "type b", "type b x");
     }
@@ -102,6 +104,9 @@ public final class Promise06Test {
             dueBehind(base, WRONG + 4, begin.replace('f', 'z') + " p");
             dueBehind(base, WRONG + 4, begin.replace('f', 'a') + " p");
         }
+        // a class is no permission of its own
+        Bench.dueOfDraft(WRONG + 2, "class f p", "type a", "sees f f");
+        Bench.dueOfDraft("1", "class f p f", "type a", "sees f f");
         // a class that is wrong declares its permissions all the same, and the first that is wrong counts
         Bench.dueOfDraft(WRONG + 3, "class f p", "type a", "sees f q", "class f q");
         Bench.dueOfDraft(WRONG + 2, "class f p", "type a", "sees f r", "class f q");
@@ -143,6 +148,8 @@ public final class Promise06Test {
         dueBehind(base, AGAINST + 6, "allow y y f p", "never x self f p");
         dueBehind(base, AGAINST + 7, "allow a b f p", "never a c f p", "never a b f p", "never a b f p");
         dueBehind(base, AGAINST + 7, "allow c c f p", "allow c c f q", "never c c f q");
+        Bench.dueOfDraft(AGAINST + 0, "never a x f p", "type a x", "class f p", "allow x a f p");
+        Bench.dueOfDraft(AGAINST + 2, "type a x", "allow x a f p", "never a x f p", "class f p");
         // what a need forbids is given all the same
         dueBehind(base, AGAINST + 8, "allow a b f p", "rank b 3", "need f > p", "never a b f p");
         // wrong goes before against itself

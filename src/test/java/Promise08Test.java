@@ -2,10 +2,13 @@
 public final class Promise08Test {
     public static void main(String[] args) {
         allowed();
+        namesOfOtherThings();
+        declaredFirst();
         needs();
         bothNeeds();
         noSuch();
         latestStays();
+        answersGoWithTheirQuestions();
         memoryIsEmptied();
         Bench.finish();
     }
@@ -19,6 +22,25 @@ public final class Promise08Test {
         int[] g = {0, 2, 2, 0, 3, 2, 0, 0, 1};
         dueMasks(bench, 0, f);
         dueMasks(bench, 1, g);
+    }
+
+    /** Classes, types and permissions may bear the same names. */
+    private static void namesOfOtherThings() {
+        Bench bench = Bench.with("class f p f a", "class a f p", "type f", "type a p", "allow f a f p", "allow a f f f",
+                "allow p self a f", "allow f f f a");
+        bench.accept();
+        Bench.due("may(0, 1, 0)", bench.may(0, 1, 0), 1);
+        Bench.due("may(1, 0, 0)", bench.may(1, 0, 0), 2);
+        Bench.due("may(1, 1, 1)", bench.may(1, 1, 1), 1);
+        Bench.due("may(0, 0, 0)", bench.may(0, 0, 0), 4);
+        Bench.due("may(0, 0, 1)", bench.may(0, 0, 1), 0);
+    }
+
+    private static void declaredFirst() {
+        Bench bench = Bench.with("type a x", "class f p q", "type b", "allow x b f p", "allow b a f q");
+        bench.accept();
+        Bench.due("may of the first", bench.may(0, 1, 0), 1);
+        Bench.due("may to the first", bench.may(1, 0, 0), 2);
     }
 
     private static void dueMasks(Bench bench, int c, int[] masks) {
@@ -97,6 +119,19 @@ public final class Promise08Test {
         dueAsked(bench, 0, 0, 0, 6, 7);
         dueAsked(bench, 0, 0, 1, 6, 8);
         Bench.due("answers", bench.desk.count(4), 3);
+    }
+
+    private static void answersGoWithTheirQuestions() {
+        Bench bench = Bench.sized(3, "class f p q r", "type a", "type b", "allow a a f p", "allow a b f q",
+                "allow b a f r", "allow b b f p q r");
+        bench.accept();
+        int[] masks = {1, 2, 4, 7};
+        int[] asked = {0, 1, 2, 0, 2, 1, 3, 2, 1, 0, 0, 3, 1, 0, 2, 1, 2, 0, 3, 2, 3, 0};
+        for (int k = 0; k < asked.length; k++) {
+            Bench.due("question " + k, bench.may(asked[k] / 2, asked[k] % 2, 0), masks[asked[k]]);
+        }
+        Bench.due("hits", bench.desk.count(2), 14);
+        Bench.due("misses", bench.desk.count(3), 8);
     }
 
     private static void dueAsked(Bench bench, int s, int t, int c, int hits, int misses) {
