@@ -229,13 +229,17 @@ final class Model {
         Set<List<Integer>> pairs = new LinkedHashSet<>();
         for (int s = 0; s < types.size(); s++) {
             for (int t = 0; t < types.size(); t++) {
-                boolean other = one.get(2).equals("self") ? s == t : types.get(t).subList(1, types.get(t).size()).contains(one.get(2));
-                if (other && types.get(s).subList(1, types.get(s).size()).contains(one.get(1))) {
+                boolean other = one.get(2).equals("self") ? s == t : bears(types.get(t), one.get(2));
+                if (other && bears(types.get(s), one.get(1))) {
                     pairs.add(List.of(s, t));
                 }
             }
         }
         return pairs;
+    }
+
+    private static boolean bears(List<String> type, String name) {
+        return type.subList(1, type.size()).contains(name);
     }
 
     private static Set<Integer> numbers(List<String> one, int c, int from, List<List<String>> classes) {

@@ -24,6 +24,7 @@ public final class ModelTest {
     /** How many types and classes are declared: names beyond them are used rarely. */
     private int types = 1;
     private int classes = 1;
+    private final int[] permissions = {1, 1, 1, 1};
 
     private ModelTest(int run) {
         random = new Random(7919L * run + 13);
@@ -73,7 +74,8 @@ public final class ModelTest {
         List<String> texts = new ArrayList<>();
         for (int k = 0; k < classes; k++) {
             StringBuilder text = new StringBuilder("class ").append(CLASSES[k]);
-            for (int p = 0; p <= random.nextInt(6); p++) {
+            permissions[k] = 1 + random.nextInt(6);
+            for (int p = 0; p < permissions[k]; p++) {
                 text.append(' ').append(PERMISSIONS[p]);
             }
             texts.add(text.toString());
@@ -92,6 +94,9 @@ public final class ModelTest {
     }
 
     private void step() {
+        if (model.count(5) < 2 && random.nextInt(4) == 0) {
+            declare();
+        }
         switch (random.nextInt(26)) {
             case 0, 1, 2, 3, 4, 5, 6 -> tell(statement());
             case 7 -> tell(damaged(statement()));
@@ -128,28 +133,31 @@ public final class ModelTest {
         }
     }
 
+    /** Mostly one that is right behind what was declared. */
     private String statement() {
-        String keyword = KEYWORDS[random.nextInt(9)];
+        String keyword = KEYWORDS[2 + random.nextInt(7)];
         if (random.nextInt(3) == 0) {
-            keyword = random.nextBoolean() ? "allow" : "make";
+            keyword = random.nextInt(5) == 0 ? KEYWORDS[random.nextInt(2)] : "allow";
         }
+        int c = random.nextInt(60) == 0 ? random.nextInt(CLASSES.length) : random.nextInt(classes);
         switch (keyword) {
             case "class":
-                return keyword + " " + pick(CLASSES, CLASSES.length) + permissions(7);
+                return keyword + " " + pick(CLASSES, CLASSES.length) + names(PERMISSIONS, 1 + random.nextInt(7));
             case "type":
                 return keyword + " " + pick(TYPES, TYPES.length) + names(ATTRIBUTES, random.nextInt(6));
             case "allow":
+                return keyword + " " + doer(40) + " " + doer(4) + " " + CLASSES[c] + permissions(c, 3);
             case "never":
-                return keyword + " " + doer() + " " + doer() + " " + knownClass() + permissions(keyword.equals("allow") ? 4 : 1);
+                return keyword + " " + doer(40) + " " + doer(4) + " " + CLASSES[c] + permissions(c, 1);
             case "make":
-                return keyword + " " + knownType() + " " + knownType() + " " + knownClass() + " " + knownType();
+                return keyword + " " + knownType() + " " + knownType() + " " + CLASSES[c] + " " + knownType();
             case "rank":
                 return keyword + " " + knownType() + " " + random.nextInt(random.nextInt(9) == 0 ? 10 : 8);
             case "need":
-                return keyword + " " + knownClass() + " " + ">=<!".charAt(random.nextInt(random.nextInt(9) == 0 ? 4 : 3))
-                        + permissions(3);
+                return keyword + " " + CLASSES[c] + " " + ">=<!".charAt(random.nextInt(random.nextInt(9) == 0 ? 4 : 3))
+                        + permissions(c, 2);
             default:
-                return keyword + " " + knownClass() + permissions(3);
+                return keyword + " " + CLASSES[c] + permissions(c, 2);
         }
     }
 
@@ -157,21 +165,18 @@ public final class ModelTest {
         return pick(TYPES, random.nextInt(60) == 0 ? TYPES.length : Math.min(types, TYPES.length));
     }
 
-    private String knownClass() {
-        return pick(CLASSES, random.nextInt(60) == 0 ? CLASSES.length : Math.min(classes, CLASSES.length));
+    private String doer(int selfOneIn) {
+        if (random.nextInt(selfOneIn) == 0) {
+            return "self";
+        }
+        return random.nextInt(8) == 0 ? pick(ATTRIBUTES, 4) : knownType();
     }
 
-    private String doer() {
-        return random.nextInt(3) == 0 ? pick(ATTRIBUTES, ATTRIBUTES.length) : knownType();
-    }
-
-    private String permissions(int most) {
+    private String permissions(int c, int most) {
         StringBuilder row = new StringBuilder();
-        int many = 1 + random.nextInt(most);
-        int from = random.nextInt(3);
+        int many = random.nextInt(12) == 0 ? 1 + random.nextInt(7) : 1 + random.nextInt(most);
         for (int k = 0; k < many; k++) {
-            int which = random.nextInt(6) == 0 ? random.nextInt(PERMISSIONS.length) : (from + k) % (random.nextBoolean() ? 2 : 7);
-            row.append(' ').append(PERMISSIONS[which]);
+            row.append(' ').append(pick(PERMISSIONS, random.nextInt(80) == 0 ? PERMISSIONS.length : permissions[c]));
         }
         return row.toString();
     }
@@ -179,7 +184,7 @@ public final class ModelTest {
     private String names(String[] pool, int many) {
         StringBuilder row = new StringBuilder();
         for (int k = 0; k < many; k++) {
-            row.append(' ').append(pool[(k + random.nextInt(8) / 6) % pool.length]);
+            row.append(' ').append(pool[(k + random.nextInt(12) / 11) % pool.length]);
         }
         return row.toString();
     }
@@ -221,7 +226,7 @@ public final class ModelTest {
                 return;
             }
             if (random.nextInt(4) != 0) {
-                cut(Math.max(0, model.fault()));
+                cut(model.fault());
             }
         }
     }

@@ -37,8 +37,10 @@ public final class Promise03Test {
             "classc p", "type", "type ", "type t ", "type abcde", "type t abcde", "type t a b c d e", "type t, a",
             "allow", "allow s", "allow s t", "allow s t c", "allow s t c ", "allow s t c a b c d e f g", "allow s t c p ",
             "never s t c", "never s t c a b c d e f g", "make s t c", "make s t c n ", "make s t c n m", "rank t",
-            "rank t ", "rank t 8", "rank t 9", "rank t -1", "rank t 10", "rank t 1 ", "rank t a", "rank t /", "rank t1", "rank 1", "need c",
-            "need c >", "need c > ", "need c p", "need c >p", "need c> p", "need c  p", "need c  > p", "need c >= p", "need c ! p", "need c > a b c d e f g",
+            "rank t ", "rank t 8", "rank t 9", "rank t -1", "rank t 10", "rank t 1 ", "rank t a", "rank t /", "rank t1", "rank 1",
+            "need c",
+            "need c >", "need c > ", "need c p", "need c >p", "need c> p", "need c  p", "need c  > p",
+            "need c >= p", "need c ! p", "need c > a b c d e f g",
             "need c ; p", "need c ? p", "sees c", "sees c a b c d e f g", "puts c", "puts c a b c d e f g", "put c p",
             "see c p", "self", "a b c d", "types t", "type t\u0021", "type `", "type {", "type t@", "type t[", "a"
         };

@@ -50,24 +50,16 @@ public final class Promise08Test {
     }
 
     private static void needs() {
-        // rank 0 is not told
-        Bench bench = Bench.with("class f over same low free", "type a", "type b", "type c", "rank b 3", "rank c 7",
-                "type d", "rank d 3", "type all", "rank all 0", "allow a a f free");
-        bench.desk.cut(10);
-        String[] names = {"a", "b", "c", "d", "all"};
-        for (String name : names) {
-            for (String other : names) {
-                if (bench.desk.count(5) < 37) {
-                    bench.addAll("allow " + name + " " + other + " f over same low free");
-                }
-            }
-        }
-        bench.addAll("need f > over", "need f = same", "need f < low");
+        // the rank of a is not told, and so 0
+        Bench bench = Bench.with("class f over same low free", "type a x", "type b x", "type c x", "type d x", "type e x",
+                "rank b 3", "rank c 7", "rank d 3", "rank e 0", "allow x x f over same low free",
+                "need f > over", "need f = same", "need f < low");
         Bench.due("accept", bench.accept(), 5);
         int[] ranks = {0, 3, 7, 3, 0};
         for (int s = 0; s < 5; s++) {
             for (int t = 0; t < 5; t++) {
-                int want = 8 + (ranks[s] >= ranks[t] ? 1 : 0) + (ranks[s] == ranks[t] ? 2 : 0) + (ranks[s] <= ranks[t] ? 4 : 0);
+                int want = 8 + (ranks[s] >= ranks[t] ? 1 : 0) + (ranks[s] == ranks[t] ? 2 : 0)
+                        + (ranks[s] <= ranks[t] ? 4 : 0);
                 Bench.due("may(" + s + ", " + t + ", 0) with needs", bench.may(s, t, 0), want);
             }
         }
