@@ -431,7 +431,7 @@ public final class PolicyDesk {
             return NONE;
         }
 
-        boolean differsFrom(int from) {
+        boolean allDifferFrom(int from) {
             for (int k = from; k < size; k++) {
                 if (find(word(k), k + 1) != NONE) {
                     return false;
@@ -510,9 +510,9 @@ public final class PolicyDesk {
             Statement one = rows[i];
             switch (one.kind()) {
                 case CLASS:
-                    return repeats(i, 1) || !one.differsFrom(1) || howMany(Kind.CLASS, i) >= MOST_CLASSES;
+                    return repeats(i, 1) || !one.allDifferFrom(1) || howMany(Kind.CLASS, i) >= MOST_CLASSES;
                 case TYPE:
-                    return repeats(i, 1) || isAttribute(one.word(0)) || !one.differsFrom(1)
+                    return repeats(i, 1) || isAttribute(one.word(0)) || !one.allDifferFrom(1)
                             || howMany(Kind.TYPE, i) >= MOST_TYPES;
                 case ALLOW:
                 case NEVER:
