@@ -1,3 +1,4 @@
+import java.util.Arrays;
 import java.util.function.IntSupplier;
 
 /** What the tests share: a desk that texts can be told to, and the count of answers that are not as due. */
@@ -7,6 +8,7 @@ final class Bench {
     static final String NO_ELEMENT = "NoSuchElementException";
 
     private static int wrong = 0;
+    private static String sentence = "";
 
     final PolicyDesk desk;
 
@@ -25,10 +27,15 @@ final class Bench {
         return bench;
     }
 
+    /** The words of the document that the answers from here on are about. */
+    static void sentence(String words) {
+        sentence = "[" + words + "] ";
+    }
+
     static void due(String what, Object got, Object want) {
         if (!String.valueOf(got).equals(String.valueOf(want))) {
             wrong++;
-            System.out.println(what + " answered " + got + ", due is " + want);
+            System.out.println(sentence + what + " answered " + got + ", due is " + want);
         }
     }
 
@@ -111,6 +118,13 @@ final class Bench {
         String got = bench.accept();
         String where = bench.desk.fault() == PolicyDesk.NONE ? "" : " at " + bench.desk.fault();
         due("accept of " + String.join("; ", statements), got + where, want);
+    }
+
+    /** The same, for a draft of the base with more statements behind. */
+    static void dueBehind(String[] base, String want, String... more) {
+        String[] all = Arrays.copyOf(base, base.length + more.length);
+        System.arraycopy(more, 0, all, base.length, more.length);
+        dueOfDraft(want, all);
     }
 
     static void dueOfText(String text, int position) {

@@ -59,50 +59,50 @@ public final class Promise06Test {
 
     private static void makesAndRanks() {
         String[] base = {"class f p", "class g p", "type a x", "type b"};
-        dueBehind(base, WRONG + 5, "make a b f a", "make a b f a");
-        dueBehind(base, WRONG + 5, "make a b f a", "make a b f b");
-        dueBehind(base, "2", "make a b f a", "make b a f a", "make a a f a", "make b b f a", "make a b g a");
-        dueBehind(base, WRONG + 6, "make a b f a", "make a b g a", "make a b f b");
-        dueBehind(base, WRONG + 4, "make x b f a");
-        dueBehind(base, WRONG + 4, "make a x f a");
-        dueBehind(base, WRONG + 4, "make a b f x");
-        dueBehind(base, WRONG + 4, "make a self f a");
-        dueBehind(base, WRONG + 4, "make z b f a");
-        dueBehind(base, WRONG + 4, "make a z f a");
-        dueBehind(base, WRONG + 4, "make a b z a");
-        dueBehind(base, WRONG + 4, "make a b f z");
-        dueBehind(base, WRONG + 5, "rank a 1", "rank a 2");
-        dueBehind(base, WRONG + 5, "rank a 1", "rank a 1");
-        dueBehind(base, "2", "rank a 1", "rank b 1");
-        dueBehind(base, WRONG + 4, "rank x 1");
-        dueBehind(base, WRONG + 4, "rank z 1");
-        dueBehind(base, WRONG + 4, "rank f 1");
-        dueBehind(base, WRONG + 4, "rank self 1");
+        Bench.dueBehind(base, WRONG + 5, "make a b f a", "make a b f a");
+        Bench.dueBehind(base, WRONG + 5, "make a b f a", "make a b f b");
+        Bench.dueBehind(base, "2", "make a b f a", "make b a f a", "make a a f a", "make b b f a", "make a b g a");
+        Bench.dueBehind(base, WRONG + 6, "make a b f a", "make a b g a", "make a b f b");
+        Bench.dueBehind(base, WRONG + 4, "make x b f a");
+        Bench.dueBehind(base, WRONG + 4, "make a x f a");
+        Bench.dueBehind(base, WRONG + 4, "make a b f x");
+        Bench.dueBehind(base, WRONG + 4, "make a self f a");
+        Bench.dueBehind(base, WRONG + 4, "make z b f a");
+        Bench.dueBehind(base, WRONG + 4, "make a z f a");
+        Bench.dueBehind(base, WRONG + 4, "make a b z a");
+        Bench.dueBehind(base, WRONG + 4, "make a b f z");
+        Bench.dueBehind(base, WRONG + 5, "rank a 1", "rank a 2");
+        Bench.dueBehind(base, WRONG + 5, "rank a 1", "rank a 1");
+        Bench.dueBehind(base, "2", "rank a 1", "rank b 1");
+        Bench.dueBehind(base, WRONG + 4, "rank x 1");
+        Bench.dueBehind(base, WRONG + 4, "rank z 1");
+        Bench.dueBehind(base, WRONG + 4, "rank f 1");
+        Bench.dueBehind(base, WRONG + 4, "rank self 1");
     }
 
     private static void undeclared() {
         String[] base = {"class f p", "class g q", "type a x", "type b"};
         for (String kind : new String[] {"allow", "never"}) {
-            dueBehind(base, "2", kind + " a b f p");
-            dueBehind(base, "2", kind + " x x f p");
-            dueBehind(base, "2", kind + " x self f p");
-            dueBehind(base, WRONG + 4, kind + " z b f p");
-            dueBehind(base, WRONG + 4, kind + " a z f p");
-            dueBehind(base, WRONG + 4, kind + " self b f p");
-            dueBehind(base, WRONG + 4, kind + " self self f p");
-            dueBehind(base, WRONG + 4, kind + " a b z p");
-            dueBehind(base, WRONG + 4, kind + " a b f q");
-            dueBehind(base, WRONG + 4, kind + " a b f p p p p p q");
-            dueBehind(base, WRONG + 4, kind + " f b f p");
-            dueBehind(base, WRONG + 4, kind + " a g f p");
-            dueBehind(base, WRONG + 4, kind + " a b a p");
+            Bench.dueBehind(base, "2", kind + " a b f p");
+            Bench.dueBehind(base, "2", kind + " x x f p");
+            Bench.dueBehind(base, "2", kind + " x self f p");
+            Bench.dueBehind(base, WRONG + 4, kind + " z b f p");
+            Bench.dueBehind(base, WRONG + 4, kind + " a z f p");
+            Bench.dueBehind(base, WRONG + 4, kind + " self b f p");
+            Bench.dueBehind(base, WRONG + 4, kind + " self self f p");
+            Bench.dueBehind(base, WRONG + 4, kind + " a b z p");
+            Bench.dueBehind(base, WRONG + 4, kind + " a b f q");
+            Bench.dueBehind(base, WRONG + 4, kind + " a b f p p p p p q");
+            Bench.dueBehind(base, WRONG + 4, kind + " f b f p");
+            Bench.dueBehind(base, WRONG + 4, kind + " a g f p");
+            Bench.dueBehind(base, WRONG + 4, kind + " a b a p");
         }
         for (String begin : new String[] {"need f >", "sees f", "puts f"}) {
-            dueBehind(base, "2", begin + " p");
-            dueBehind(base, WRONG + 4, begin + " q");
-            dueBehind(base, WRONG + 4, begin + " p q");
-            dueBehind(base, WRONG + 4, begin.replace('f', 'z') + " p");
-            dueBehind(base, WRONG + 4, begin.replace('f', 'a') + " p");
+            Bench.dueBehind(base, "2", begin + " p");
+            Bench.dueBehind(base, WRONG + 4, begin + " q");
+            Bench.dueBehind(base, WRONG + 4, begin + " p q");
+            Bench.dueBehind(base, WRONG + 4, begin.replace('f', 'z') + " p");
+            Bench.dueBehind(base, WRONG + 4, begin.replace('f', 'a') + " p");
         }
         // a class is no permission of its own
         Bench.dueOfDraft(WRONG + 2, "class f p", "type a", "sees f f");
@@ -129,31 +129,31 @@ public final class Promise06Test {
 
     private static void against() {
         String[] base = {"class f p q", "class g p q", "type a x", "type b x y", "type c"};
-        dueBehind(base, AGAINST + 6, "allow a b f p", "never a b f p");
-        dueBehind(base, AGAINST + 5, "never a b f p", "allow a b f p");
-        dueBehind(base, AGAINST + 5, "never a b f q p", "allow a b f p");
-        dueBehind(base, "3", "allow a b f p", "never a b f q");
-        dueBehind(base, "3", "allow a b f p", "never b a f p");
-        dueBehind(base, "3", "allow a b f p", "never a b g p");
-        dueBehind(base, "3", "allow a b f p", "never a self f p");
-        dueBehind(base, AGAINST + 6, "allow a a f p", "never a self f p");
-        dueBehind(base, AGAINST + 6, "allow x self f p", "never b b f p");
-        dueBehind(base, "3", "allow x self f p", "never a b f p");
-        dueBehind(base, "3", "allow x self f p", "never c x f p");
-        dueBehind(base, AGAINST + 6, "allow x self f p", "never x x f p");
-        dueBehind(base, AGAINST + 6, "allow x y f p", "never a y f p");
-        dueBehind(base, AGAINST + 6, "allow x y f p", "never x b f p");
-        dueBehind(base, "3", "allow x y f p", "never x a f p");
-        dueBehind(base, "3", "allow x y f p", "never c x f p");
-        dueBehind(base, AGAINST + 6, "allow y y f p", "never x self f p");
-        dueBehind(base, AGAINST + 7, "allow a b f p", "never a c f p", "never a b f p", "never a b f p");
-        dueBehind(base, AGAINST + 7, "allow c c f p", "allow c c f q", "never c c f q");
+        Bench.dueBehind(base, AGAINST + 6, "allow a b f p", "never a b f p");
+        Bench.dueBehind(base, AGAINST + 5, "never a b f p", "allow a b f p");
+        Bench.dueBehind(base, AGAINST + 5, "never a b f q p", "allow a b f p");
+        Bench.dueBehind(base, "3", "allow a b f p", "never a b f q");
+        Bench.dueBehind(base, "3", "allow a b f p", "never b a f p");
+        Bench.dueBehind(base, "3", "allow a b f p", "never a b g p");
+        Bench.dueBehind(base, "3", "allow a b f p", "never a self f p");
+        Bench.dueBehind(base, AGAINST + 6, "allow a a f p", "never a self f p");
+        Bench.dueBehind(base, AGAINST + 6, "allow x self f p", "never b b f p");
+        Bench.dueBehind(base, "3", "allow x self f p", "never a b f p");
+        Bench.dueBehind(base, "3", "allow x self f p", "never c x f p");
+        Bench.dueBehind(base, AGAINST + 6, "allow x self f p", "never x x f p");
+        Bench.dueBehind(base, AGAINST + 6, "allow x y f p", "never a y f p");
+        Bench.dueBehind(base, AGAINST + 6, "allow x y f p", "never x b f p");
+        Bench.dueBehind(base, "3", "allow x y f p", "never x a f p");
+        Bench.dueBehind(base, "3", "allow x y f p", "never c x f p");
+        Bench.dueBehind(base, AGAINST + 6, "allow y y f p", "never x self f p");
+        Bench.dueBehind(base, AGAINST + 7, "allow a b f p", "never a c f p", "never a b f p", "never a b f p");
+        Bench.dueBehind(base, AGAINST + 7, "allow c c f p", "allow c c f q", "never c c f q");
         Bench.dueOfDraft(AGAINST + 0, "never a x f p", "type a x", "class f p", "allow x a f p");
         Bench.dueOfDraft(AGAINST + 2, "type a x", "allow x a f p", "never a x f p", "class f p");
         // what a need forbids is given all the same
-        dueBehind(base, AGAINST + 8, "allow a b f p", "rank b 3", "need f > p", "never a b f p");
+        Bench.dueBehind(base, AGAINST + 8, "allow a b f p", "rank b 3", "need f > p", "never a b f p");
         // wrong goes before against itself
-        dueBehind(base, WRONG + 7, "allow a b f p", "never a b f p", "rank z 1");
+        Bench.dueBehind(base, WRONG + 7, "allow a b f p", "never a b f p", "rank z 1");
     }
 
     private static void policyBefore() {
@@ -185,11 +185,5 @@ public final class Promise06Test {
         Bench.due("accept, the third", bench.accept(), 1);
         bench.desk.image();
         Bench.due("image without what was before", bench.imageBytes(), "1 1 2 0 2 0 0 0 0 0 0");
-    }
-
-    private static void dueBehind(String[] base, String want, String... more) {
-        String[] all = java.util.Arrays.copyOf(base, base.length + more.length);
-        System.arraycopy(more, 0, all, base.length, more.length);
-        Bench.dueOfDraft(want, all);
     }
 }
