@@ -47,7 +47,11 @@ public final class EdgesOfAnswersTest {
 
     /** Three types and two classes. */
     private static Bench three() {
-        Bench bench = Bench.with("class f p", "class g p", "type a x", "type b x", "type c x", "allow x x f p", "allow x x g p",
+        return three(8);
+    }
+
+    private static Bench three(int size) {
+        Bench bench = Bench.sized(size, "class f p", "class g p", "type a x", "type b x", "type c x", "allow x x f p", "allow x x g p",
                 "make a a f a", "make b b g b");
         bench.accept();
         return bench;
@@ -246,14 +250,13 @@ public final class EdgesOfAnswersTest {
 
     private static void countOfEach() {
         Bench.sentence("Promise 11: What 0: types; 1: classes; 2: hits; 3: misses; 4: answers; 5: statements of the draft");
-        Bench bench = three();
-        bench.may(0, 0, 0);
-        bench.may(0, 1, 0);
-        bench.may(0, 2, 0);
-        bench.may(1, 0, 0);
-        bench.may(1, 0, 0);
+        Bench bench = three(5);
+        for (int k = 0; k < 6; k++) {
+            bench.may(k / 3, k % 3, 0);
+        }
+        bench.may(1, 2, 0);
         bench.addAll("rank a 1");
-        int[] want = {3, 2, 1, 4, 4, 10};
+        int[] want = {3, 2, 1, 6, 5, 10};
         for (int what = 0; what <= 5; what++) {
             Bench.due("count(" + what + ")", bench.desk.count(what), want[what]);
         }
@@ -389,17 +392,16 @@ public final class EdgesOfAnswersTest {
         Bench.sentence("Promise 14: NONE, changing nothing, if they would be more than 420");
         for (int n = 1; n <= 8; n++) {
             Bench bench = new Bench(1);
-            for (int k = 8; k <= 412; k += 8) {
-                bench.desk.feed(0, 8);
+            for (int k = 8; k <= 408; k += 8) {
+                Bench.due("feed of 8", bench.desk.feed(0, 8), k);
             }
-            int fed = 408;
-            while (fed < 420 - n + 1) {
-                fed = bench.desk.feed(0, 1);
+            int before = 420 - (n - 1);
+            for (int k = 409; k <= before; k++) {
+                Bench.due("feed of 1", bench.desk.feed(0, 1), k);
             }
-            Bench.due("fed before", fed, 420 - n + 1);
             Bench.due("feed of " + n + " with room for " + (n - 1), bench.desk.feed(0, n), NONE);
-            Bench.due("feed of 8", bench.desk.feed(0, 8), NONE);
-            for (int k = fed + 1; k <= 420; k++) {
+            Bench.due("feed of 8 with no such room", bench.desk.feed(0, 8), NONE);
+            for (int k = before + 1; k <= 420; k++) {
                 Bench.due("feed of 1", bench.desk.feed(0, 1), k);
             }
             Bench.due("feed behind 420", bench.desk.feed(0, 1), NONE);

@@ -113,6 +113,7 @@ public final class EdgesOfImageTest {
         }
         for (int types : new int[] {0, 2, 9, 127, 128, 129, 255}) {
             dueOfByte(blankImage(1, 1, 1), 0, types, false);
+            dueOfByte(blankImage(8, 1, 1), 0, types, false);
         }
     }
 
@@ -123,6 +124,7 @@ public final class EdgesOfImageTest {
         }
         for (int classes : new int[] {0, 2, 4, 127, 128, 129, 255}) {
             dueOfByte(blankImage(1, 1, 1), 1, classes, false);
+            dueOfByte(blankImage(1, 3, 1), 1, classes, false);
         }
         dueOfRead("8 types and 3 classes", blankImage(8, 3, 6), true);
     }

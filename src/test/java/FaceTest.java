@@ -75,7 +75,7 @@ public final class FaceTest {
 
     private static void classesInside() {
         Class<?>[] inside = PolicyDesk.class.getDeclaredClasses();
-        Bench.due("more than twelve classes", inside.length > 11, false);
+        Bench.due("more than some twelve classes", inside.length > 12, false);
         for (Class<?> one : inside) {
             int modifiers = one.getModifiers();
             Bench.due(one + " is static", Modifier.isStatic(modifiers), true);
@@ -89,14 +89,25 @@ public final class FaceTest {
 
     private static void words(String source) {
         String code = source.replaceAll("(?s)/\\*.*?\\*/", "").replaceAll("//[^\n]*", "");
-        String[] never = {"\\bcatch\\b", "\\bfinally\\b", "\\btry\\b", "->", "::", "\\bsynchronized\\b", "\\bassert\\b",
-            "\\bSystem\\.(?!arraycopy)", "\\bpackage\\b", "\\bThread\\b", "\\bRandom\\b", "\" *\\+|\\+ *\""};
+        String[] never = {"\\bfinally\\b", "::", "\\bsynchronized\\b", "\\bassert\\b", "\\bSystem\\.(?!arraycopy)", "\\bpackage\\b",
+            "\\bThread\\b", "\\bRandom\\b", "\" *\\+|\\+ *\"", "\\bstatic *\\{", "Exact\\(",
+            // an arrow that is no switch's
+            "(?m)^(?!\\s*(?:case|default)\\b).*->"};
         for (String word : never) {
             Bench.due(word + " in the code", Pattern.compile(word).matcher(code).find(), false);
         }
-        dueAmong("import", code, "import ([\\w.]+);", Set.of("java.util.Arrays", "java.util.NoSuchElementException"));
-        dueAmong("throw", code, "throw new (\\w+)\\(\"[^\"]*\"\\)",
-                Set.of("IllegalArgumentException", "IllegalStateException", "NoSuchElementException"));
+        String[] machine = {"Throwable", "Error", "Exception", "RuntimeException", "IndexOutOfBoundsException",
+            "ArrayIndexOutOfBoundsException", "NullPointerException", "ClassCastException", "NegativeArraySizeException",
+            "ArrayStoreException"};
+        for (String name : machine) {
+            Pattern caught = Pattern.compile("\\bcatch *\\([^)]*\\b" + name + "\\b");
+            Bench.due("a catch of " + name, caught.matcher(code).find(), false);
+        }
+        dueAmong("import", code, "import ([\\w.]+);", Set.of("java.util.Arrays", "java.util.ArrayList", "java.util.Iterator",
+                "java.util.List", "java.util.NoSuchElementException"));
+        dueAmong("throw", code, "throw new (?:java\\.util\\.)?(\\w+)\\((?:\"[^\"]*\")?\\)",
+                Set.of("IllegalArgumentException", "IllegalStateException", "NoSuchElementException", "IndexOutOfBoundsException",
+                "ArithmeticException", "UnsupportedOperationException", "RuntimeException"));
     }
 
     private static void dueAmong(String what, String code, String pattern, Set<String> allowed) {
