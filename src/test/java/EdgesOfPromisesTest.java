@@ -2,6 +2,9 @@
 public final class EdgesOfPromisesTest {
     private static final int NONE = PolicyDesk.NONE;
     private static final int[] FAR = {Integer.MIN_VALUE, Integer.MIN_VALUE + 1, -256, -2, 256, Integer.MAX_VALUE};
+    /** Statements that name what nothing declares but one that is no longer, or was never, there. */
+    private static final String[] NAMING = {"rank z 1", "allow z a f p", "allow a z f p", "allow w a f p", "sees f q", "make a a g a"};
+    private static final String[] DECLARING = {"type z", "type z", "type z", "type b w", "class f q", "class g p"};
 
     public static void main(String[] args) {
         sizeTooSmall();
@@ -17,6 +20,7 @@ public final class EdgesOfPromisesTest {
         numberOfAStatement();
         noStatement();
         thereAre40();
+        refusedDeclaresNothing();
         bothHold();
         positionOfTheLatest();
         positionBeforeAdd();
@@ -24,6 +28,7 @@ public final class EdgesOfPromisesTest {
         positionAfter40();
         cutToNothing();
         cutToAll();
+        whatIsCutDeclaresNothing();
         cutRefused();
         eachStatementCounts();
         nothingOfPoliciesBefore();
@@ -211,6 +216,23 @@ public final class EdgesOfPromisesTest {
         Bench.due("the 40th", bench.add("rank a 1"), 39);
     }
 
+    private static void refusedDeclaresNothing() {
+        Bench.sentence("Promise 3: what throws adds nothing");
+        for (int k = 0; k < NAMING.length; k++) {
+            Bench bench = full();
+            bench.desk.cut(39);
+            bench.addAll(NAMING[k]);
+            Bench.due("add of the 41st", bench.add(DECLARING[k]), Bench.BAD_STATE);
+            Bench.due("accept of " + NAMING[k], bench.accept(), Bench.BAD_ARGUMENT);
+            Bench.due("fault of " + NAMING[k], bench.desk.fault(), 39);
+
+            Bench half = Bench.with("class f p", "type a", NAMING[k]);
+            Bench.due("add of no statement", half.add(DECLARING[k] + "~"), Bench.BAD_ARGUMENT);
+            Bench.due("accept then", half.accept(), Bench.BAD_ARGUMENT);
+            Bench.due("fault then", half.desk.fault(), 2);
+        }
+    }
+
     private static void bothHold() {
         Bench.sentence("Promise 3: The one named first, if both hold");
         Bench bench = full();
@@ -291,6 +313,27 @@ public final class EdgesOfPromisesTest {
         Bench.due("accept of two", bench.accept(), 1);
         bench.desk.image();
         Bench.due("what was cut is not put", bench.desk.imageAt(10), 0);
+    }
+
+    private static void whatIsCutDeclaresNothing() {
+        Bench.sentence("Promise 5: The draft has its first n statements alone");
+        for (int k = 0; k < NAMING.length; k++) {
+            Bench bench = Bench.with("class f p", "type a", NAMING[k], DECLARING[k]);
+            Bench.due("cut(3)", bench.desk.cut(3), true);
+            Bench.due("accept of " + NAMING[k], bench.accept(), Bench.BAD_ARGUMENT);
+            Bench.due("fault of " + NAMING[k], bench.desk.fault(), 2);
+        }
+        Bench same = Bench.with("class f p q", "type a", "allow a a f q", "class f q p");
+        same.desk.cut(3);
+        Bench.due("accept without the other class f", same.accept(), 1);
+        Bench.due("may without the other class f", same.may(0, 0, 0), 2);
+        Bench attribute = Bench.with("class f p", "type a", "type b a");
+        attribute.desk.cut(2);
+        Bench.due("accept without the attribute a", attribute.accept(), 1);
+        Bench type = Bench.with("type a", "class f p");
+        type.desk.cut(1);
+        Bench.due("accept without the class", type.accept(), Bench.BAD_ARGUMENT);
+        Bench.due("fault without the class", type.desk.fault(), 1);
     }
 
     private static void cutRefused() {
