@@ -1,28 +1,11 @@
-/** Edges that belong to several promises, and the example of README.md. */
+/** Edges that belong to several promises. */
 public final class TermsTest {
     public static void main(String[] args) {
-        example();
         selfAsName();
         numbersAsDeclared();
         twoDesks();
         theWholeLife();
         Bench.finish();
-    }
-
-    private static void example() {
-        PolicyDesk desk = new PolicyDesk(4);
-        desk.write(0x636c617373206620L);
-        desk.write(0x7265616420707574L);
-        Bench.due("statement 0", desk.add(), 0);
-        desk.write(0x7479706520610000L);
-        Bench.due("statement 1", desk.add(), 1);
-        desk.write(0x616c6c6f77206120L);
-        desk.write(0x73656c6620662072L);
-        desk.write(0x6561640000000000L);
-        Bench.due("statement 2", desk.add(), 2);
-        Bench.due("accept", desk.accept(), 1);
-        Bench.due("may", desk.may(0, 0, 0), 1);
-        Bench.due("image", desk.image(), 11);
     }
 
     /** As t of allow and never self is the same type as s, even if a type or an attribute bears that name. */
